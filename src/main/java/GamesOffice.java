@@ -952,24 +952,36 @@ public final class GamesOffice {
 
         private static final int DAYS = 20;
 
+        private final int[] beds;
+        private final int[] sizes;
+        private final int[] nations;
+        private final int[] firsts;
+        private final int[] lasts;
         // by ROOM and DAY: the PERSONS there, and their NATION
         private final int[] used;
-        private final int[] nations;
+        private final int[] usedBy;
         // by GROUP: the BEDS by DAYS of it and of all behind it
         private final int[] left;
         private final int[] rooms;
         private final int[] bestRooms;
         private int many;
+        private int manyRooms;
         private int best;
         private boolean isFresh;
 
         Lodging() {
+            beds = new int[MOST_ROOMS];
+            sizes = new int[MOST_GROUPS];
+            nations = new int[MOST_GROUPS];
+            firsts = new int[MOST_GROUPS];
+            lasts = new int[MOST_GROUPS];
             used = new int[MOST_ROOMS * DAYS];
-            nations = new int[MOST_ROOMS * DAYS];
+            usedBy = new int[MOST_ROOMS * DAYS];
             left = new int[MOST_GROUPS + 1];
             rooms = new int[MOST_GROUPS];
             bestRooms = new int[MOST_GROUPS];
             many = 0;
+            manyRooms = 0;
             best = NONE;
             isFresh = false;
         }
@@ -980,38 +992,49 @@ public final class GamesOffice {
 
         void renew(Books books) {
             if (isFresh) return;
-            many = Math.min(books.groups.rows(), MOST_GROUPS);
-            left[many] = 0;
-            for (int group = many - 1; group >= 0; group--) left[group] = left[group + 1] + worth(books.groups, group);
+            load(books);
             best = NONE;
-            search(this, books, 0, 0);
+            search(this, 0, 0);
             isFresh = true;
         }
 
-        private static int worth(Table groups, int group) {
-            int days = groups.get(group, Books.GUESTS_TO) - groups.get(group, Books.GUESTS_FROM) + 1;
-            return groups.get(group, Books.MANY) * days;
+        private void load(Books books) {
+            manyRooms = Math.min(books.rooms.rows(), MOST_ROOMS);
+            for (int room = 0; room < manyRooms; room++) beds[room] = books.rooms.get(room, Books.BEDS);
+            many = Math.min(books.groups.rows(), MOST_GROUPS);
+            left[many] = 0;
+            for (int group = many - 1; group >= 0; group--) {
+                sizes[group] = books.groups.get(group, Books.MANY);
+                nations[group] = books.groups.get(group, Books.GUESTS_NATION);
+                firsts[group] = Math.max(0, books.groups.get(group, Books.GUESTS_FROM));
+                lasts[group] = Math.min(DAYS - 1, books.groups.get(group, Books.GUESTS_TO));
+                left[group] = left[group + 1] + worth(group);
+            }
+        }
+
+        private int worth(int group) {
+            return sizes[group] * (lasts[group] - firsts[group] + 1);
         }
 
         /**
          * Tries the lesser ROOMS first and none last, so that of like ones the one that is found first
          * stays; what can't come above the best one is given up.
          */
-        private static void search(Lodging l, Books books, int group, int sum) {
+        private static void search(Lodging l, int group, int sum) {
             if (group > l.many || sum + l.left[group] <= l.best) return;
             if (group == l.many) {
                 l.keep(sum);
                 return;
             }
-            for (int room = 0; room < books.rooms.rows(); room++) {
-                if (!l.fits(books, group, room)) continue;
-                l.put(books.groups, group, room, 1);
+            for (int room = 0; room < l.manyRooms; room++) {
+                if (!l.fits(group, room)) continue;
+                l.put(group, room, l.sizes[group]);
                 l.rooms[group] = room;
-                search(l, books, group + 1, sum + worth(books.groups, group));
-                l.put(books.groups, group, room, -1);
+                search(l, group + 1, sum + l.worth(group));
+                l.put(group, room, -l.sizes[group]);
             }
             l.rooms[group] = NONE;
-            search(l, books, group + 1, sum);
+            search(l, group + 1, sum);
         }
 
         private void keep(int sum) {
@@ -1019,38 +1042,23 @@ public final class GamesOffice {
             for (int group = 0; group < many; group++) bestRooms[group] = rooms[group];
         }
 
-        private boolean fits(Books books, int group, int room) {
-            int nation = books.groups.get(group, Books.GUESTS_NATION);
-            int free = books.rooms.get(room, Books.BEDS) - books.groups.get(group, Books.MANY);
-            int last = lastDay(books.groups, group);
-            for (int day = firstDay(books.groups, group); day <= last; day++) {
-                int at = place(room, day);
-                if (used[at] > free || used[at] > 0 && nations[at] != nation) return false;
+        private boolean fits(int group, int room) {
+            int free = beds[room] - sizes[group];
+            if (free < 0) return false;
+            int end = room * DAYS + lasts[group];
+            for (int at = room * DAYS + firsts[group]; at <= end; at++) {
+                if (used[at] > free || used[at] > 0 && usedBy[at] != nations[group]) return false;
             }
-            return free >= 0;
+            return true;
         }
 
-        /** Puts a GROUP into a ROOM (sign 1) or takes it out again (sign -1). */
-        private void put(Table groups, int group, int room, int sign) {
-            int last = lastDay(groups, group);
-            for (int day = firstDay(groups, group); day <= last; day++) {
-                int at = place(room, day);
-                used[at] += sign * groups.get(group, Books.MANY);
-                nations[at] = groups.get(group, Books.GUESTS_NATION);
+        /** Puts so many PERSONS of a GROUP into a ROOM; below 0: takes them out again. */
+        private void put(int group, int room, int persons) {
+            int end = room * DAYS + lasts[group];
+            for (int at = room * DAYS + firsts[group]; at <= end; at++) {
+                used[at] += persons;
+                usedBy[at] = nations[group];
             }
-        }
-
-        private static int firstDay(Table groups, int group) {
-            return Math.max(0, groups.get(group, Books.GUESTS_FROM));
-        }
-
-        private static int lastDay(Table groups, int group) {
-            return Math.min(DAYS - 1, groups.get(group, Books.GUESTS_TO));
-        }
-
-        private int place(int room, int day) {
-            int at = room * DAYS + day;
-            return at >= 0 && at < used.length ? at : 0;
         }
 
         int bedsByDays() {

@@ -41,10 +41,12 @@ public final class SheetsTest {
     due.done("sheet(3, 1, 0)", x, x.sheet(3, 1, 0), 1);
     due.refused("cell of a sheet without numbers", x, x.cell(3, 0, 0), 12);
     // made anew: all 0
+    x.cell(0, 0, 76);
     x.cell(0, 5, 77);
+    forge(x, 2, 0, 0, 76);
     forge(x, 2, 5, 0, 77);
     due.done("sheet(0, 1, 6)", x, x.sheet(0, 1, 6), 1);
-    forge(x, 2, 5, 0, 0);
+    for (int i = 0; i < 6; i++) forge(x, 2, i, 0, 0);
     forgeRefused(x, 2, 6, 0, 12);
     x.cell(0, 1, 9);
     due.refused("sheet(0, 1, 41)", x, x.sheet(0, 1, 41), 1);
