@@ -7,6 +7,7 @@ import java.util.Random;
 /** Runs of calls with a fixed seed, each answered by the program and by the model. */
 public final class ModelTest {
   private static final int RUNS = 1200;
+  // each is followed by status(): fewer than 512 calls an object
   private static final int CALLS = 250;
   private static final int[] EDGES = {Integer.MIN_VALUE, Integer.MAX_VALUE, Integer.MAX_VALUE - 1, -2, -1, 0, 1, 28799,
       28800, 1439, 1440, 1919, 1920, 2000, 5000, 5001, 14391439, 14400000, 371293, 46656};
@@ -17,6 +18,7 @@ public final class ModelTest {
     final List<String> calls = new ArrayList<>();
     final Random random;
     final int opening;
+    int status = 0;
 
     Run(int seed) {
       random = new Random(seed);
@@ -165,8 +167,9 @@ public final class ModelTest {
       Object want = Model.class.getMethod(method.getName(), types).invoke(model, arguments);
       Object got = method.invoke(program, arguments);
       String call = method.getName() + Arrays.toString(arguments);
-      calls.add(call + " = " + got + " (" + want + "), status " + program.status() + " (" + model.status() + ")");
-      return got.equals(want) && program.status() == model.status();
+      status = program.status();
+      calls.add(call + " = " + got + " (" + want + "), status " + status + " (" + model.status() + ")");
+      return got.equals(want) && status == model.status();
     }
   }
 
@@ -240,8 +243,7 @@ public final class ModelTest {
       Run run = new Run(seed);
       for (int at = 0; at < CALLS; at++) {
         if (run.next(methods, at)) {
-          int status = run.program.status();
-          if (status >= 0 && status < seen.length) seen[status]++;
+          if (run.status >= 0 && run.status < seen.length) seen[run.status]++;
           continue;
         }
         System.out.println("ModelTest: run " + seed + " goes apart from the model (the model's in brackets):");

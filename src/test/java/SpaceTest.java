@@ -37,7 +37,8 @@ public final class SpaceTest {
     for (int i = 0; i < 12; i++) sum += x.rule(i != 5, i % 6, i % 4, 19, 1439) + x.pass(i, i % 6, 19, 1);
     for (int i = 0; i < 5; i++) sum += x.unit(i % 3, 20 + i, 3 << i, i > 0 ? 50 + i - 1 : -1, i == 2) + x.group(i % 3, 2, i * 100 + 9);
     x.image();
-    for (int i = 0; i < 8; i++) {
+    // fewer than 512 calls in all
+    for (int i = 0; i < 7; i++) {
       sum += x.back() + x.unit(1, 30 + i, 9, -1, false) + x.group(2, 3 + i % 4, 110) + x.seats(1 + i);
       for (int unit = -1; unit < 6; unit++) sum += x.begins(unit) + x.order(unit) + x.planned(0, unit);
       sum += x.fleet() + x.rooming(-1) + x.rooming(3) + x.result(1 + 2 * 13) + x.strip(0, 1) + x.placed(0, 0);
