@@ -7,8 +7,8 @@ import java.util.Random;
 /** Runs of calls with a fixed seed, each answered by the program and by the model. */
 public final class ModelTest {
   private static final int RUNS = 1200;
-  // each is followed by status(): fewer than 512 calls an object
-  private static final int CALLS = 250;
+  // each is followed by status(): the 512 calls that an object is used for
+  private static final int CALLS = 256;
   private static final int[] EDGES = {Integer.MIN_VALUE, Integer.MAX_VALUE, Integer.MAX_VALUE - 1, -2, -1, 0, 1, 28799,
       28800, 1439, 1440, 1919, 1920, 2000, 5000, 5001, 14391439, 14400000, 371293, 46656};
 
